@@ -91,7 +91,7 @@ public final class WhoseWave {
     private static final long MOST_VALUE = 1000000000000L;
     private static final long ERROR = Long.MIN_VALUE;
 
-    private static final int[] GAME_WAYS = {STAY, 0, 1, 2, 3};
+    private static final int[] GAME_WAYS = {4, 0, 1, 2, 3};
 
     private final byte[] tape;
     private int tapeLength;
@@ -362,8 +362,8 @@ public final class WhoseWave {
         if (!isSurfer(surfer) || !isToCome(wave) || cost < 0 || cost > 999) {
             return NONE;
         }
-        int gain = surf.oddsAt(surfer, wave, now.cell[surfer]) * told.waves.size[wave];
-        return gain > cost * surf.crossingOdds(now, surfer, wave) ? 1 : 0;
+        int worth = surf.worthAt(surfer, wave, now.cell[surfer]);
+        return worth > cost * surf.crossingOdds(now, surfer, wave) ? 1 : 0;
     }
 
     public int give(int one, int other, int n) {
@@ -418,10 +418,15 @@ public final class WhoseWave {
             return NONE;
         }
         int last = told.waves.minute[told.waves.count - 1];
+        int wave = firstToCome();
+        int seat = surf.seatFrom(surfer, now.cell[surfer], wave);
         for (int minute = now.minute; minute <= last; minute++) {
-            int seat = surf.seatFrom(surfer, now.cell[surfer], told.waves.firstFrom(minute));
             if (100 * told.bankSize * told.bankWaves(minute, last) > seat) {
                 return minute;
+            }
+            if (wave < told.waves.count && told.waves.minute[wave] == minute) {
+                seat -= surf.worthAt(surfer, wave, now.cell[surfer]);
+                wave++;
             }
         }
         return NOT_SO;
@@ -1737,10 +1742,14 @@ public final class WhoseWave {
             return value == ERROR ? 5 : (int) Math.max(1, Math.min(30, value));
         }
 
+        int worthAt(int surfer, int wave, int cell) {
+            return oddsAt(surfer, wave, cell) * told.waves.size[wave];
+        }
+
         int seatFrom(int surfer, int cell, int firstWave) {
             int sum = 0;
             for (int i = firstWave; i < told.waves.count; i++) {
-                sum += oddsAt(surfer, i, cell) * told.waves.size[i];
+                sum += worthAt(surfer, i, cell);
             }
             return sum;
         }
@@ -1902,7 +1911,7 @@ public final class WhoseWave {
                 for (int w = from; cell != NONE && w < surf.told.waves.count; w++) {
                     int at = (row + i) * MOST_WAVES + w;
                     far[at] = surf.farOf(cell, w);
-                    worth[at] = surf.oddsAt(surfer, w, cell) * surf.told.waves.size[w];
+                    worth[at] = surf.worthAt(surfer, w, cell);
                 }
             }
         }
@@ -1956,7 +1965,7 @@ public final class WhoseWave {
             bestFrom[waves.count] = 0;
             for (int w = waves.count - 1; w >= from; w--) {
                 thenWave[w] = waves.firstFrom(waves.minute[w] + surf.awayFor(surfer, w));
-                int going = surf.oddsAt(surfer, w, now.cell[surfer]) * waves.size[w] + bestFrom[thenWave[w]];
+                int going = surf.worthAt(surfer, w, now.cell[surfer]) + bestFrom[thenWave[w]];
                 goesFor[w] = going >= bestFrom[w + 1];
                 bestFrom[w] = Math.max(going, bestFrom[w + 1]);
             }
