@@ -239,7 +239,21 @@ public final class FaultsTest {
         bad(5, "set 95 1 1 1 1 1 1;set |99 1;");
     }
 
+    // The last byte of a full TAPE is the end of a TOKEN, whatever it is.
+    private static void fullTape() {
+        String[] ends = {"law catch 1 <", "law catch 1 >", "law catch 1", "law catch far", "law catch 1 <=", "law catch (", "sea", "sea 1 1"};
+        for (String end : ends) {
+            bad(1, times(" ", 700 - end.length()) + end + "|");
+        }
+        bad(2, times(" ", 690) + "sea 1 |9999");
+        good(times(" ", 693) + "seed 1;", 1);
+        good(times(" ", 680) + "law catch (far)<>33;", 1);
+        good(times("\n", 700), 0);
+        bad(1, times(" ", 692) + "|abcdefgh");
+    }
+
     public static void main(String[] args) {
+        fullTape();
         noTokens();
         cannotStandThere();
         cutShort();

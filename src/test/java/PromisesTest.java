@@ -339,6 +339,12 @@ public final class PromisesTest {
         x = told(one + "surfer b 0 0 2 1 0 0;set 0 1;law catch 38 + (board = 2) * 21;");
         x.minutes(1);
         due.is("58 is below 59", x.wave(0, 4), 1);
+        x = told("sea 1 1;surfer a 0 0 1 1 0 0;set 0 1;law catch 1;");
+        x.minutes(1);
+        due.is("the first number from seed 0 is 0: below ODDS 1", x.wave(0, 4), 0);
+        x = told("sea 1 1;seed 80;surfer a 0 0 1 1 0 0;surfer b 0 0 1 1 1 0;set 0 1;law catch 100;");
+        x.minutes(1);
+        due.is("the second number from seed 80 is 0: below BOLD 1", x.wave(0, 4), -3);
         x = told(one + "set 0 1;law catch 100;law away 1 / 0;");
         x.minutes(1);
         due.is("an error of away", Due.look(x, 0, 3), 5);
@@ -619,6 +625,14 @@ public final class PromisesTest {
         due.is("too late", x.over(0), -2);
         x.minutes(20);
         due.is("behind the last one", x.over(0), -2);
+        x = told("sea 1 1;surfer a 0 0 1 1 0 0;set 9 4;bank 5 1 1;");
+        due.is("one each minute: 5 and 4", x.over(0), 0);
+        x.minutes(1);
+        due.is("4 and 4", x.over(0), -2);
+        x = told("sea 2 1;surfer a 1 0 1 1 0 0;set 0 9;set 5 9;bank 5 1 9;law catch 0;");
+        due.is("0 and 9", x.over(0), 0);
+        x.minutes(1);
+        due.is("0 and 0", x.over(0), -2);
         due.is("none", x.over(1), -1);
         due.is("none", x.over(-1), -1);
         due.is("no bank", told(sea).over(0), -1);
@@ -664,6 +678,10 @@ public final class PromisesTest {
         due.is("in sum", x.shares(1), 3);
         due.is("what 2", x.shares(2), -1);
         due.is("what -1", x.shares(-1), -1);
+        x = told("sea 1 1;surfer a 0 0 1 1 0 0;set 0 1;");
+        x.minutes(1);
+        due.is("one surfer", x.shares(0), 0);
+        due.is("one surfer", x.shares(1), 1);
         due.is("no surfers", told("set 0 1;").shares(1), -1);
         due.is("no surfers", told("set 0 1;").shares(0), -1);
     }
@@ -785,6 +803,15 @@ public final class PromisesTest {
         for (int[] w : wrong) {
             due.is("tried(" + w[0] + ", " + w[1] + ", " + w[2] + ")", x.tried(w[0], w[1], w[2]), -1);
         }
+        x = told("sea 2 1;surfer a 1 0 1 1 100 0;surfer b 0 0 1 1 0 0;set 0 1 1;law catch 100;law away 1;");
+        due.is("a is bold", x.tried(2, 0, 0), 0);
+        due.is("nobody is bold", x.tried(0, 0, 0), 2);
+        x.minutes(1);
+        due.is("CROSSED: none is there", x.tried(0, 0, 0), 0);
+        x = told("sea 2 1;surfer a 0 0 1 1 0 0;surfer b 1 0 1 1 0 0;set 0 1 1;law catch 100;law away 1;");
+        x.minutes(1);
+        due.is("had till now, too", x.tried(0, 0, 0), 2);
+        due.is("who isn't there has none", x.tried(1, 0, 0), 1);
         x = told("sea 8 1;surfer a 2 0 1 1 0 0;set 0 1;law catch 100 - far * 100;law drift 2;");
         due.is("as it is", x.table(0, 0, 0), 1);
         due.is("no drift", x.tried(2, 0, 0), 0);
@@ -819,6 +846,7 @@ public final class PromisesTest {
         x.stroke(0, 1);
         x.minutes(1);
         due.is("a minute went by", x.undo(), -1);
+        x = told("sea 3 1;surfer a 0 0 1 3 0 0;");
         for (int i = 0; i < 25; i++) {
             x.rule(i % 2 == 0 ? 1 : 2);
         }
@@ -828,6 +856,29 @@ public final class PromisesTest {
         }
         due.is("the latest 20", x.count(7), 1);
         due.is("none", x.undo(), -1);
+        x = told("sea 3 1;surfer a 0 0 1 3 0 0;");
+        x.stroke(0, 1);
+        x.rule(1);
+        x.stroke(0, 1);
+        for (int i = 0; i < 18; i++) {
+            x.rule(i % 2 == 0 ? 2 : 1);
+        }
+        for (int i = 0; i < 20; i++) {
+            x.undo();
+        }
+        due.is("21 behind one another: the first stays", Due.look(x, 0, 0), 1);
+        due.is("21 behind one another: the rule is undone", x.count(7), 0);
+        x = told("sea 3 1;surfer a 0 0 1 3 0 0;");
+        for (int i = 0; i < 19; i++) {
+            x.rule(i % 2 == 0 ? 2 : 1);
+        }
+        x.stroke(0, 1);
+        x.rule(3);
+        for (int i = 0; i < 20; i++) {
+            x.undo();
+        }
+        due.is("the stroke among them is undone", Due.look(x, 0, 0), 0);
+        due.is("the first rule of them stays", x.count(7), 2);
     }
 
     private static void images() {

@@ -9,7 +9,9 @@ public final class SteadyTest {
         "", "set 0 1;", "surfer a 0 0 1 1 0 0;", "sea 1 1;surfer a 0 0 1 1 100 100;set 99 9 9 9 9 9 9 9;bank 20 20 9;",
         "sea 8 6;peak 7 5;surfer a 0 0 1 1 0 0;surfer b 7 5 9 3 100 100;surfer c 3 3 5 2 50 50;surfer d 4 4 4 1 30 3;"
             + "surfer e 7 0 2 2 99 1;set 0 1 2 3 4 5 6 7;set 10 9 9 9;set 20 1;set 98 3 3 3;bank 1 1 1;rule each;seed 99999;"
-            + "law catch 9999 * 9999 * 9999 * far - side;law drift minute / (minute - 5);law away 10 - which * size;"};
+            + "law catch 9999 * 9999 * 9999 * far - side;law drift minute / (minute - 5);law away 10 - which * size;",
+        "sea 8 6;surfer a 7 5 1 1 9 9;surfer b 7 5 9 3 10 10;surfer c 0 0 5 2 5 50;surfer d 0 5 4 1 30 3;surfer e 7 0 2 2 9 1;"
+            + "set 0 1 2 3 4 5 6 7;set 7 9 9 9 9 9 9 9;set 15 1 1 1 1 1 1 1;set 22 7 6 5 4 3 2 1;bank 20 1 9;law catch 90;law away 1;"};
 
     private final Random random = new Random(4711);
     private final Due due = new Due();
