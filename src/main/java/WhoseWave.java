@@ -1290,7 +1290,9 @@ public final class WhoseWave {
 
         // Looked at before it is worked out: a product of two values may not fit a long.
         private static long product(long left, long right) {
-            if (right != 0 && Math.abs(left) > MOST_VALUE / Math.abs(right)) {
+            long leftSize = left < 0 ? -left : left;
+            long rightSize = right < 0 ? -right : right;
+            if (rightSize > 0 && leftSize > MOST_VALUE / rightSize) {
                 return ERROR;
             }
             return left * right;
@@ -1485,7 +1487,10 @@ public final class WhoseWave {
         }
 
         int farFrom(int cell, int x) {
-            return Math.abs(columnOf(cell) - x) + Math.abs(rowOf(cell) - peakY);
+            if (wide < 1) {
+                return 0;
+            }
+            return Math.abs(cell % wide - x) + Math.abs(cell / wide - peakY);
         }
 
         int cellBeside(int cell, int way) {
@@ -1713,7 +1718,7 @@ public final class WhoseWave {
 
         private void nameCatch(int surfer, int wave, int cell) {
             nameAway(surfer, wave);
-            names[FAR] = farOf(cell, wave);
+            names[FAR] = told.farFrom(cell, peakX[wave]);
             names[SIDE] = told.rowOf(cell) - told.peakY;
         }
 
