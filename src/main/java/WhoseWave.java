@@ -1579,9 +1579,9 @@ public final class WhoseWave {
             wastedWaves = 0;
         }
 
+        /** What it had till now stays: only the WAVES to come are tried without it. */
         void leaveOut(int surfer) {
             till[surfer] = Integer.MAX_VALUE;
-            had[surfer] = 0;
         }
 
         void seatAll(int onCell) {

@@ -587,7 +587,7 @@ final class Mirror {
     int had() {
         int sum = 0;
         for (int i = 0; i < surfers.size(); i++) {
-            sum += i == absent ? 0 : surfers.get(i).had;
+            sum += surfers.get(i).had;
         }
         return sum;
     }
