@@ -41,6 +41,37 @@ final class Due {
         return x.text(text.length());
     }
 
+    /** A new object with a text of which every LINE must be taken. */
+    WhoseWave told(String text) {
+        WhoseWave x = new WhoseWave();
+        int lines = 0;
+        for (int i = 0; i < text.length(); i++) {
+            lines += text.charAt(i) == ';' ? 1 : 0;
+        }
+        is("text " + text, tell(x, text), lines);
+        return x;
+    }
+
+    /** A text without a FAULT, and how many LINES it has. */
+    void good(String text, int lines) {
+        WhoseWave x = new WhoseWave();
+        in(text);
+        is("text", tell(x, text), lines);
+        is("fault(0)", x.fault(0), 0);
+        is("fault(1)", x.fault(1), -1);
+    }
+
+    /** A text whose FAULT is due where '|' stands. */
+    void bad(int kind, String marked) {
+        int place = marked.indexOf('|');
+        String text = marked.substring(0, place) + marked.substring(place + 1);
+        WhoseWave x = new WhoseWave();
+        in(marked);
+        is("text", tell(x, text), -1);
+        is("fault(0)", x.fault(0), kind);
+        is("fault(1)", x.fault(1), place);
+    }
+
     static void feed(WhoseWave x, String text) {
         StringBuilder all = new StringBuilder(text);
         while (all.length() % 20 != 0) {

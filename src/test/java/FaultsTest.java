@@ -4,23 +4,12 @@ public final class FaultsTest {
     private static final String FIVE = "surfer a 0 0 1 1 0 0;surfer b 0 0 1 1 0 0;surfer c 0 0 1 1 0 0;surfer d 0 0 1 1 0 0;surfer e 0 0 1 1 0 0;";
     private static final String FOUR_SETS = "set 0 1;set 1 1;set 2 1;set 3 1;";
 
-    /** The FAULT is due where '|' stands. */
-    private static void bad(int kind, String marked) {
-        int place = marked.indexOf('|');
-        String text = marked.substring(0, place) + marked.substring(place + 1);
-        WhoseWave x = new WhoseWave();
-        due.in(marked);
-        due.is("text", Due.tell(x, text), -1);
-        due.is("fault(0)", x.fault(0), kind);
-        due.is("fault(1)", x.fault(1), place);
+    private static void good(String text, int lines) {
+        due.good(text, lines);
     }
 
-    private static void good(String text, int lines) {
-        WhoseWave x = new WhoseWave();
-        due.in(text);
-        due.is("text", Due.tell(x, text), lines);
-        due.is("fault(0)", x.fault(0), 0);
-        due.is("fault(1)", x.fault(1), -1);
+    private static void bad(int kind, String marked) {
+        due.bad(kind, marked);
     }
 
     private static String times(String what, int n) {

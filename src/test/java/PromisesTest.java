@@ -8,13 +8,7 @@ public final class PromisesTest {
     private static final Due due = new Due();
 
     private static WhoseWave told(String text) {
-        WhoseWave x = new WhoseWave();
-        int lines = 0;
-        for (int i = 0; i < text.length(); i++) {
-            lines += text.charAt(i) == ';' ? 1 : 0;
-        }
-        due.is("text " + text, Due.tell(x, text), lines);
-        return x;
+        return due.told(text);
     }
 
     private static void counts(WhoseWave x, int... wanted) {
