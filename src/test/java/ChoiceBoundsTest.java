@@ -248,6 +248,11 @@ public final class ChoiceBoundsTest {
         x.minutes(8);
         due.is("IN again", x.go(0, 1, 4), 1);
         due.is("IN again", x.go(0, 1, 5), 0);
+        x = told("sea 3 1;surfer a 0 0 1 1 0 0;surfer b 1 0 1 1 50 0;surfer c 2 0 1 1 10 0;set 0 5;set 9 5;law catch 100;law away 9;seed 1;");
+        x.minutes(1);
+        due.is("a is AWAY itself", Due.look(x, 0, 3), 9);
+        due.is("by the rule both would be behind: 55 of 100, 9 times", x.go(0, 1, 9), 1);
+        due.is("10 times", x.go(0, 1, 10), 0);
         x = told("sea 1 1;surfer a 0 0 1 1 0 0;surfer b 0 0 1 1 1 0;surfer c 0 0 1 1 1 0;set 0 4;law catch 100;");
         due.is("99 times 99 by 100 is 98: 2 of 100, 199 times", x.go(0, 0, 199), 1);
         due.is("200 times: as much", x.go(0, 0, 200), 0);
@@ -347,6 +352,8 @@ public final class ChoiceBoundsTest {
         due.is("behind it", x.over(0), -2);
         x = told(ONE + "set 0 9;set 20 1;bank 1 20 2;");
         due.is("behind the first WAVE", x.over(0), 1);
+        due.is("behind the second WAVE", told(ONE + "set 0 9 9;set 20 1;bank 1 20 2;").over(0), 2);
+        due.is("behind the third WAVE", told(ONE + "set 0 1 9 9;set 20 1;bank 1 20 2;").over(0), 3);
         int[] none = {-1, 1, 5, BIG, LOW};
         for (int s : none) {
             due.is("SURFER " + s, x.over(s), -1);
@@ -421,6 +428,10 @@ public final class ChoiceBoundsTest {
         x.minutes(2);
         due.is("five SURFERS", x.shares(0), 1);
         due.is("five SURFERS", x.shares(1), 2);
+        x = told("sea 2 1;surfer a 1 0 1 1 0 0;surfer b 0 0 1 1 0 0;surfer c 1 0 1 1 0 0;set 0 1 1;law catch 100;law away 1;");
+        due.is("the second one has the most, in a RUN", x.table(0, 0, 7), 2);
+        x.minutes(2);
+        due.is("the second one had the most", x.shares(0), 2);
         due.is("no SURFERS", told("set 0 1;").shares(0), -1);
         due.is("no SURFERS", told("set 0 1;").shares(1), -1);
     }

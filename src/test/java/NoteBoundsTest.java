@@ -294,26 +294,34 @@ public final class NoteBoundsTest {
     // "All (but NOTES) is as in the IMAGE": whatever went by since.
     private static void allOfTheImage() {
         due.in("39 back: all");
-        String text = "sea 5 4;peak 1 1;surfer a 1 1 3 3 20 60;surfer b 2 1 5 3 40 30;surfer c 4 3 9 3 0 0;set 0 4 7 5;set 6 3 9;set 12 1 2;bank 2 3 6;"
-            + "rule each;seed 77;law catch 100 - far * 15;law drift minute / 4;law away 2;";
+        String text = "sea 5 4;peak 1 1;surfer a 1 1 3 3 50 60;surfer b 2 1 5 3 50 30;surfer c 4 3 9 3 0 0;set 0 4 7 5;set 6 3 9;set 12 1 2;bank 2 3 6;"
+            + "rule each;seed 66;law catch 80 - far * 15;law drift minute / 4;law away 1;";
         WhoseWave x = told(text);
         WhoseWave twin = told(text);
         WhoseWave[] both = {x, twin};
         for (WhoseWave one : both) {
-            one.minutes(2);
+            one.minutes(3);
+            due.that("some WAVES were had", one.shares(1) > 0);
+            due.that("some were CROSSED", one.count(8) > 0);
+            due.that("some were WASTED", one.count(9) > 0);
+            due.that("somebody is AWAY", one.look(0, 3) + one.look(1, 3) + one.look(2, 3) > 0);
             one.rule(1);
             one.stroke(0, 1);
             one.stroke(2, 0);
+            due.that("some STROKES were used", one.look(0, 4) + one.look(2, 4) < 6);
             one.keep();
             one.back();
         }
         x.rule(3);
         x.stroke(1, 0);
         x.stroke(2, 3);
-        x.minutes(9);
+        x.minutes(12);
+        due.that("more were CROSSED", x.count(8) > twin.count(8));
+        due.that("more WAVES were had", x.shares(1) > twin.shares(1));
+        due.that("more were WASTED", x.count(9) > twin.count(9));
         x.stroke(0, 2);
         x.rule(0);
-        due.is("back", x.back(), 2);
+        due.is("back", x.back(), 3);
         Whole.asked(x).mustBe(due, Whole.asked(twin));
         Whole.driven(x).mustBe(due, Whole.driven(twin));
     }

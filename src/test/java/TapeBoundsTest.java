@@ -123,17 +123,21 @@ public final class TapeBoundsTest {
     // "(MINUTE 0, all IN, no NOTES, all KNOWN, no IMAGE, nothing to undo then)".
     private static void anew() {
         due.in("3 text: all anew");
-        String text = "sea 4 3;peak 1 1;surfer a 1 1 3 2 20 60;surfer b 2 1 5 1 40 30;surfer c 3 2 9 3 0 0;set 0 4 7 5;set 6 3 9;set 12 1 2;seed 7;";
+        String text = "sea 4 3;peak 1 1;surfer a 1 1 3 2 50 60;surfer b 2 1 5 1 50 30;surfer c 3 2 9 3 0 0;set 0 4 7 5;set 6 3 9;set 12 1 2;seed 7;law away 2;";
         WhoseWave x = due.told(text);
         x.minutes(1);
         x.keep();
-        x.minutes(1);
+        x.minutes(12);
+        due.that("some WAVES were had", x.shares(1) > 0);
+        due.that("some were CROSSED", x.count(8) > 0);
+        due.that("some were WASTED", x.count(9) > 0);
+        due.that("somebody is AWAY", x.look(0, 3) + x.look(1, 3) + x.look(2, 3) > 0);
         x.note(0, 0, 1);
         x.note(1, 1, 1);
         x.known(1);
         x.rule(2);
         x.stroke(2, 0);
-        due.is("the same text", Due.tell(x, text), 9);
+        due.is("the same text", Due.tell(x, text), 10);
         due.is("MINUTE", x.count(6), 0);
         due.is("IN", x.look(0, 3), 0);
         due.is("NOTES", x.count(11), 0);
@@ -143,15 +147,15 @@ public final class TapeBoundsTest {
         x.note(0, 0, 1);
         x.note(1, 1, 1);
         due.is("all KNOWN", x.count(12), 2);
-        due.is("the same text", Due.tell(x, text), 9);
+        due.is("the same text", Due.tell(x, text), 10);
         Whole.asked(x).mustBe(due, Whole.asked(due.told(text)));
-        due.is("the same text", Due.tell(x, text), 9);
+        due.is("the same text", Due.tell(x, text), 10);
         Whole.driven(x).mustBe(due, Whole.driven(due.told(text)));
     }
 
     // What earlier texts told, with a FAULT or without, is not in a later one: "6 and 4", "0, 0", "deep", "(0)", "5 without" and their like hold.
     private static void nothingIsLeft() {
-        String rest = "surfer a 3 3 1 1 0 0;surfer b 4 3 1 1 0 0;surfer c 5 3 1 1 0 0;set 0 1;set 6 2;";
+        String rest = "surfer a 2 1 1 1 0 0;surfer b 1 1 1 1 0 0;surfer c 3 3 1 1 0 0;set 0 1 1;set 6 2 2 2;";
         String[] ahead = {ALL_LINES, "sea 1 1;peak 0 0;surfer a 0 0 9 3 100 100;set 90 9 9 9;bank 1 1 9;rule turns;seed 99999;law catch 1;law drift 7;law away 30;#",
             "law catch not(not(1+(far<", "law drift ((((((((", "sea 8 6;law away not not not not", ALL_LINES + "surfer"};
         for (String first : ahead) {
@@ -161,10 +165,11 @@ public final class TapeBoundsTest {
             Due.tell(x, first);
             due.is("text", Due.tell(x, rest), 5);
             Whole.asked(x).mustBe(due, Whole.asked(due.told(rest)));
+            Whole.driven(x).mustBe(due, Whole.driven(due.told(rest)));
             Due.tell(x, first);
             due.is("text", Due.tell(x, rest + "law catch 100-far*2*(1+1);law drift minute;law away 1+(1);"), 8);
             due.is("KNOTS", x.count(5), 13);
-            due.is("catch", x.law(0, 0, 0), 76);
+            due.is("catch", x.law(0, 0, 0), 88);
             due.is("drift", x.law(2, 0, 0), 0);
             due.is("away", x.law(1, 0, 0), 2);
             due.is("no bank", x.over(0), -1);
