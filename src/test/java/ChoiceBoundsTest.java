@@ -43,6 +43,8 @@ public final class ChoiceBoundsTest {
         due.is("the first of several", told("sea 4 3;peak 1 1;" + two + "set 0 1;law catch far = 1;").best(0), 1);
         due.is("all nothing", told("sea 4 3;peak 1 1;" + two + "set 0 1;law catch 0;").best(1), 0);
         due.is("one more than the first", told("sea 4 3;peak 3 2;" + two + "set 0 1;law catch 50+(far=0);").best(1), 11);
+        due.is("the last row", told("sea 4 3;" + two + "set 0 1;law catch side*20;").best(0), 8);
+        due.is("the farthest CELL there is", told("sea 4 3;" + two + "set 0 1;law catch far*10;").best(0), 11);
         x.minutes(1);
         due.is("no WAVES to come", x.best(0), 0);
         for (int s : NO_SURFERS) {
@@ -115,6 +117,29 @@ public final class ChoiceBoundsTest {
         }
         x.minutes(1);
         due.is("none to come: all that aren't outside", x.rests(0, 1), 16);
+    }
+
+    // "one outside isn't one": whatever a GAME ahead had there. c would take the PEAK from 2 by 3, a can't go there from 0.
+    private static void outsideBehindAnotherGame() {
+        due.in("18 rests: behind another GAME");
+        String text = "sea 4 1;peak 1 0;surfer a 0 0 1 1 0 0;surfer b 3 0 1 1 0 0;surfer c 2 0 9 1 0 0;set 0 9;law catch board*10;";
+        int[][] pairs = {{0, 1}, {1, 0}};
+        for (int[] pair : pairs) {
+            WhoseWave x = told(text);
+            int rests = x.rests(pair[0], pair[1]);
+            due.that("there are some", rests > 0);
+            x.rests(2, 1);
+            due.is("as before", x.rests(pair[0], pair[1]), rests);
+            x.rests(1, 2);
+            due.is("as before", x.rests(pair[0], pair[1]), rests);
+        }
+        WhoseWave x = told(text);
+        x.rest(2, 1, 0);
+        x.rest(1, 2, 0);
+        int[] ways = {44, 43, 14, 13, -2};
+        for (int k = 0; k < 5; k++) {
+            due.is("a has it all the same, b nothing: the one numbered " + k, x.rest(0, 1, k), ways[k]);
+        }
     }
 
     // "RANK ...: in how many SETS with k WAVES at least the k-th is as large as any of its SET"; "(1 .. 7)".
@@ -442,6 +467,7 @@ public final class ChoiceBoundsTest {
         waysOutside();
         likeOnesInTheGame();
         gameOfAllWaves();
+        outsideBehindAnotherGame();
         rank();
         planBehindAway();
         planOfAll();

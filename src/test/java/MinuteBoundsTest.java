@@ -209,13 +209,21 @@ public final class MinuteBoundsTest {
 
     // "by 0 up (y less), 1 right, 2 down, 3 left, to the CELL beside"; "-2: outside".
     private static void strokesAtTheEdge() {
-        for (int cell = 0; cell < 9; cell++) {
-            int column = cell % 3;
-            int row = cell / 3;
-            int[] to = {row > 0 ? cell - 3 : -2, column < 2 ? cell + 1 : -2, row < 2 ? cell + 3 : -2, column > 0 ? cell - 1 : -2};
+        strokesAtTheEdge(3, 3);
+        strokesAtTheEdge(4, 2);
+        strokesAtTheEdge(2, 5);
+        strokesAtTheEdge(8, 1);
+        strokesAtTheEdge(1, 6);
+    }
+
+    private static void strokesAtTheEdge(int wide, int high) {
+        for (int cell = 0; cell < wide * high; cell++) {
+            int column = cell % wide;
+            int row = cell / wide;
+            int[] to = {row > 0 ? cell - wide : -2, column < wide - 1 ? cell + 1 : -2, row < high - 1 ? cell + wide : -2, column > 0 ? cell - 1 : -2};
             for (int way = 0; way < 4; way++) {
-                due.in("11 stroke from " + cell + " by " + way);
-                WhoseWave x = told("sea 3 3;surfer a " + column + " " + row + " 1 1 0 0;");
+                due.in("11 stroke from " + cell + " of " + wide + " and " + high + " by " + way);
+                WhoseWave x = told("sea " + wide + " " + high + ";surfer a " + column + " " + row + " 1 1 0 0;");
                 due.is("stroke", x.stroke(0, way), to[way]);
                 due.is("where it sits", Due.look(x, 0, 0), to[way] < 0 ? cell : to[way]);
                 due.is("STROKES left", Due.look(x, 0, 4), to[way] < 0 ? 1 : 0);
