@@ -7,6 +7,7 @@ import java.nio.file.Files;
 import java.nio.file.Path;
 import java.util.ArrayList;
 import java.util.Arrays;
+import java.util.Collections;
 import java.util.List;
 import java.util.regex.Matcher;
 import java.util.regex.Pattern;
@@ -62,6 +63,32 @@ public final class LanguageTest {
         due.that("some twelve classes", WhoseWave.class.getDeclaredClasses().length < 12);
     }
 
+    // The document's face as it stands there, with what each method may throw.
+    private static void faceOfTheDocument() throws IOException {
+        due.in("the document's face");
+        String document = Files.readString(Path.of("../shared/DOC.md"));
+        Matcher line = Pattern.compile("^    public (\\w+ \\w+)\\(([^)]*)\\)(?: throws ([\\w, ]+))?;$", Pattern.MULTILINE).matcher(document);
+        List<String> told = new ArrayList<>();
+        while (line.find()) {
+            String types = line.group(2).replaceAll("(\\w+) \\w+(, )?", "$1,").replaceAll(",$", "");
+            told.add(line.group(1) + "(" + types + ") " + (line.group(3) == null ? "" : line.group(3)));
+        }
+        List<String> found = new ArrayList<>();
+        for (Method method : WhoseWave.class.getDeclaredMethods()) {
+            if (Modifier.isPublic(method.getModifiers())) {
+                StringBuilder thrown = new StringBuilder();
+                for (Class<?> type : method.getExceptionTypes()) {
+                    thrown.append(thrown.length() == 0 ? "" : ", ").append(type.getSimpleName());
+                }
+                found.add(shape(method) + " " + thrown);
+            }
+        }
+        due.is("methods told", told.size(), FACE.size());
+        Collections.sort(told);
+        Collections.sort(found);
+        due.that("told " + told + ", found " + found, told.equals(found));
+    }
+
     private static void inside(Class<?> one, List<String> names) {
         int fields = 0;
         for (Field field : one.getDeclaredFields()) {
@@ -114,6 +141,7 @@ public final class LanguageTest {
     public static void main(String[] args) throws IOException {
         String source = Files.readString(Path.of("src/main/java/WhoseWave.java"));
         face();
+        faceOfTheDocument();
         words(source);
         shortMethods(source.split("\n"));
         making(source.split("\n"));
